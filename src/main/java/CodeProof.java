@@ -82,19 +82,19 @@ public final class CodeProof {
 
     public int unit(int frame, int place) {
         boolean fits = frame >= 0 && frame <= MOST_CELLS && place >= NO_PLACE && place < MOST_CELLS;
-        if (!fits || code.unitCount >= MOST_UNITS) {
-            return BAD;
+        int made = fits ? code.newUnit(frame, place) : BAD;
+        if (made != BAD) {
+            proof.forget();
         }
-        proof.forget();
-        return code.newUnit(frame, place);
+        return made;
     }
 
     public int add(int number, int a, int b, int c) {
-        if (code.unitCount == 0 || code.instructionCount >= MOST_INSTRUCTIONS) {
-            return BAD;
+        int made = code.newInstruction(number, a, b, c);
+        if (made != BAD) {
+            proof.forget();
         }
-        proof.forget();
-        return code.newInstruction(number, a, b, c);
+        return made;
     }
 
     public int change(int unit, int i, int number, int a, int b, int c) {
@@ -237,8 +237,10 @@ public final class CodeProof {
 
         /** Where no instruction is, one with a number that is none: so a neighbour may be asked for at the edges. */
         Instruction at(int unit, int i) {
-            int row = rowOf(unit, i);
-            return row >= 0 && row < MOST_INSTRUCTIONS ? rows[row] : nothing;
+            if (unit < 0 || unit >= unitCount || i < 0 || i >= sizes[unit]) {
+                return nothing;
+            }
+            return rows[starts[unit] + i];
         }
     }
 
@@ -261,11 +263,9 @@ public final class CodeProof {
             super(code);
         }
 
-        @Override
         void open(int unit) {
         }
 
-        @Override
         int faultAt(int unit, int i) {
             Instruction it = code.at(unit, i);
             if (hasWrongForm(it)) {
@@ -321,7 +321,7 @@ public final class CodeProof {
             }
             int first = firstCell(it);
             // Without cells none can lie outside, however far on the first one would be.
-            return first < 0 || cells > 0 && (long) first + cells > code.frameOf(ownerOfCells(unit, it));
+            return first < 0 || (cells > 0 && (long) first + cells > code.frameOf(ownerOfCells(unit, it)));
         }
 
         private boolean namesCounterAsCell(int unit, Instruction it) {
@@ -402,7 +402,6 @@ public final class CodeProof {
             super(code);
         }
 
-        @Override
         void open(int unit) {
             nextCount = 0;
             int size = code.sizeOf(unit);
@@ -414,7 +413,6 @@ public final class CodeProof {
             }
         }
 
-        @Override
         int faultAt(int unit, int i) {
             Instruction it = code.at(unit, i);
             boolean wrong;
@@ -504,7 +502,6 @@ public final class CodeProof {
             return unit >= 0 && unit < MOST_UNITS ? deepest[unit] : 0;
         }
 
-        @Override
         void open(int unit) {
             size = Math.min(code.sizeOf(unit), MOST_INSTRUCTIONS);
             for (int i = 0; i < size; i++) {
@@ -517,7 +514,6 @@ public final class CodeProof {
             }
         }
 
-        @Override
         int faultAt(int unit, int i) {
             Instruction it = code.at(unit, i);
             boolean known = it.number >= 0 && it.number < TAKEN.length;
@@ -644,7 +640,11 @@ public final class CodeProof {
                     comeTo(i + 1, to, behind);
                     break;
                 case NEXT:
-                    goIntoLoop(unit, i, to);
+                    if (code.at(unit, i - 1).b == 0) {
+                        comeTo(it.b, to, behind);
+                    } else {
+                        comeTo(i + 1, to, behind + stepsOfRounds(i, code.at(unit, i - 1).b - 1));
+                    }
                     break;
                 case BACK:
                     // This is the last round: what follows is the 13 once more, which goes right behind this one.
@@ -663,21 +663,17 @@ public final class CodeProof {
             }
         }
 
-        private void goIntoLoop(int unit, int i, int to) {
-            int turns = code.at(unit, i - 1).b;
-            long behind = before[i] + 1;
-            if (turns == 0) {
-                comeTo(code.at(unit, i).b, to, behind);
-            } else if (rounds[i] == NO_WAY) {
-                comeTo(i + 1, to, behind);
-            } else {
-                comeTo(i + 1, to, behind + (turns - 1) * rounds[i]);
+        /** Where no way goes through a whole round, the first round is the one in which the loop is left. */
+        private long stepsOfRounds(int next, int turns) {
+            if (next < 0 || next >= MOST_INSTRUCTIONS || rounds[next] == NO_WAY) {
+                return 0;
             }
+            return turns * rounds[next];
         }
 
         private void comeTo(int i, int to, long steps) {
             if (i >= 0 && i <= to && steps > before[i]) {
-                before[i] = Math.min(steps, TOO_MANY);
+                before[i] = steps < TOO_MANY ? steps : TOO_MANY;
             }
         }
     }
@@ -785,6 +781,7 @@ public final class CodeProof {
         private final int[] openAts = new int[MOST_UNITS];
         private int openCount;
         private int unit;
+        private int size;
         private int at;
         private int choices;
 
@@ -795,11 +792,9 @@ public final class CodeProof {
         int walked(long bits) {
             openCount = 0;
             choices = 0;
-            unit = code.program();
-            at = 0;
+            goTo(code.program(), 0);
             for (int taken = 0; taken < MOST_WALKED; taken++) {
-                leaveEndedUnits();
-                if (at >= code.sizeOf(unit)) {
+                if (at >= size && !comesBack()) {
                     return taken;
                 }
                 takeStep(code.at(unit, at), bits);
@@ -807,12 +802,19 @@ public final class CodeProof {
             return MOST_WALKED;
         }
 
-        private void leaveEndedUnits() {
-            while (openCount > 0 && openCount <= MOST_UNITS && at >= code.sizeOf(unit)) {
+        private void goTo(int newUnit, int newAt) {
+            unit = newUnit;
+            size = code.sizeOf(newUnit);
+            at = newAt;
+        }
+
+        /** Whether one of the units that began those that have ended goes on. */
+        private boolean comesBack() {
+            while (at >= size && openCount > 0 && openCount <= MOST_UNITS) {
                 openCount--;
-                unit = openUnits[openCount];
-                at = openAts[openCount];
+                goTo(openUnits[openCount], openAts[openCount]);
             }
+            return at < size;
         }
 
         private void takeStep(Instruction it, long bits) {
@@ -833,10 +835,10 @@ public final class CodeProof {
                     break;
                 case ENTER:
                 case CALL:
-                    enterUnit(it.a);
+                    goInto(it.a);
                     break;
                 case LEAVE:
-                    at = code.sizeOf(unit);
+                    at = size;
                     break;
                 default:
                     at++;
@@ -864,15 +866,13 @@ public final class CodeProof {
             return true;
         }
 
-        private void enterUnit(int begun) {
-            at++;
+        private void goInto(int begun) {
             // Units begin only units before them, so that no more than all of them are ever open.
             if (openCount >= 0 && openCount < MOST_UNITS) {
                 openUnits[openCount] = unit;
-                openAts[openCount] = at;
+                openAts[openCount] = at + 1;
                 openCount++;
-                unit = begun;
-                at = 0;
+                goTo(begun, 0);
             }
         }
     }

@@ -82,7 +82,7 @@ public final class AnyCallTest {
         long before = bean.getThreadAllocatedBytes(Thread.currentThread().getId());
         useAll(x);
         long made = bean.getThreadAllocatedBytes(Thread.currentThread().getId()) - before;
-        Check.holds("some 400 calls make no objects, but take " + made + " bytes", made < 2000);
+        Check.holds("some 700 calls make no objects, but take " + made + " bytes", made < 2000);
         before = bean.getThreadAllocatedBytes(Thread.currentThread().getId());
         x = new CodeProof();
         made = bean.getThreadAllocatedBytes(Thread.currentThread().getId()) - before;

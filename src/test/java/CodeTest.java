@@ -64,6 +64,7 @@ public final class CodeTest {
         Check.due("behind begin: count(3)", x.count(3), 0);
         Check.due("behind begin: count(4)", x.count(4), 0);
         Check.due("behind begin: add", x.add(0, 1, 0, 0), CodeProof.BAD);
+        Check.due("behind begin: change", x.change(0, 0, 0, 1, 0, 0), CodeProof.BAD);
         Check.due("behind begin: prove", x.prove(), 0);
         Check.due("behind begin: walk", x.walk(0), CodeProof.BAD);
         Check.due("behind begin: steps", x.steps(0), CodeProof.BAD);
@@ -203,5 +204,16 @@ public final class CodeTest {
         Check.due("walk behind what was refused", x.walk(0), 1);
         Check.due("count(3) behind what was refused", x.count(3), 1);
         Check.due("count(4) behind what was refused", x.count(4), 1);
+        x.begin(64);
+        for (int u = 0; u < 16; u++) {
+            x.unit(0, 0);
+        }
+        for (int i = 0; i < 256; i++) {
+            x.add(18, 0, 0, 0);
+        }
+        x.prove();
+        Check.due("a 17th unit", x.unit(0, 0), CodeProof.BAD);
+        Check.due("a 257th instruction", x.add(18, 0, 0, 0), CodeProof.BAD);
+        Check.due("steps behind a 17th unit and a 257th instruction", x.steps(15), 1);
     }
 }

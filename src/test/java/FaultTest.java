@@ -13,6 +13,7 @@ public final class FaultTest {
         targets();
         loops();
         loopsGoneInto();
+        loopsAcrossUnits();
         stackFaults();
         whereDepthsMeet();
         tooManySteps();
@@ -341,6 +342,29 @@ public final class FaultTest {
         dueFault("GO from a loop into another one", program(new int[] {12, 9, 2}, new int[] {13, 9, 4},
                 new int[] {10, 6}, new int[] {14, 1}, new int[] {12, 9, 2}, new int[] {13, 9, 7},
                 new int[] {14, 5}), 7, 0, 2);
+    }
+
+    /** What is right behind and right before is looked for in the unit alone. */
+    private static void loopsAcrossUnits() {
+        CodeProof x = new CodeProof();
+        x.unit(10, -1);
+        x.add(12, 9, 2, 0);
+        x.unit(10, 0);
+        addAll(x, new int[] {13, 9, 2}, new int[] {14, 0});
+        dueFault("COUNT at the end of a unit, NEXT in the one behind", x, 7, 0, 0);
+        x.begin(64);
+        x.unit(10, 0);
+        addAll(x, new int[] {17, 5, 0}, new int[] {13, 9, 3}, new int[] {14, 1});
+        x.begin(64);
+        x.unit(10, 0);
+        x.add(12, 9, 2, 0);
+        dueFault("COUNT at the end, NEXT in code that is gone", x, 7, 0, 0);
+        x.begin(64);
+        x.unit(10, -1);
+        addAll(x, new int[] {12, 9, 2}, new int[] {13, 9, 3}, new int[] {14, 1});
+        x.unit(10, 0);
+        addAll(x, new int[] {13, 9, 2}, new int[] {14, 0});
+        dueFault("NEXT first in its unit", x, 7, 1, 0);
     }
 
     /** A loop in a loop, with a GO in the outer one (which 1: before the inner one) or in the inner one (which 2). */
