@@ -19,21 +19,8 @@ public final class AnswerTest {
         Check.end();
     }
 
-    private static CodeProof program(int[]... instructions) {
-        CodeProof x = new CodeProof();
-        x.unit(10, 0);
-        addAll(x, instructions);
-        return x;
-    }
-
-    private static void addAll(CodeProof x, int[]... instructions) {
-        for (int[] it : instructions) {
-            x.add(it[0], it.length > 1 ? it[1] : 0, it.length > 2 ? it[2] : 0, it.length > 3 ? it[3] : 0);
-        }
-    }
-
     private static void dueSteps(String what, int steps, int[]... instructions) {
-        CodeProof x = program(instructions);
+        CodeProof x = Programs.program(instructions);
         Check.due(what + ": prove()", x.prove(), 0);
         Check.due(what + ": steps(0)", x.steps(0), steps);
     }
@@ -112,12 +99,12 @@ public final class AnswerTest {
     private static void stepsOfUnits() {
         CodeProof x = new CodeProof();
         x.unit(4, -1);
-        addAll(x, BLOCK, BLOCK, BLOCK);
+        Programs.addAll(x, BLOCK, BLOCK, BLOCK);
         x.unit(4, 60);
-        addAll(x, new int[] {15, 0, 0}, BLOCK);
+        Programs.addAll(x, new int[] {15, 0, 0}, BLOCK);
         x.unit(0, 50);
         x.unit(20, 0);
-        addAll(x, new int[] {16, 1}, new int[] {12, 9, 10}, new int[] {13, 9, 5}, new int[] {15, 0, 0},
+        Programs.addAll(x, new int[] {16, 1}, new int[] {12, 9, 10}, new int[] {13, 9, 5}, new int[] {15, 0, 0},
                 new int[] {14, 2}, new int[] {16, 2});
         x.change(3, 3, 15, 0, 10, 0);
         Check.due("units in units: prove", x.prove(), 0);
@@ -129,7 +116,7 @@ public final class AnswerTest {
     }
 
     private static void dueDepth(String what, int depth, int[]... instructions) {
-        CodeProof x = program(instructions);
+        CodeProof x = Programs.program(instructions);
         Check.due(what + ": prove()", x.prove(), 0);
         Check.due(what + ": depth(0)", x.depth(0), depth);
     }
@@ -148,7 +135,7 @@ public final class AnswerTest {
         for (int u = 0; u < 16; u++) {
             x.unit(1, u == 15 ? 0 : -1);
             for (int i = 0; i < 5; i++) {
-                addAll(x, PUSH);
+                Programs.addAll(x, PUSH);
             }
             if (u > 0) {
                 x.add(15, u - 1, 0, 0);
@@ -169,9 +156,9 @@ public final class AnswerTest {
     private static void depthsOfUnitsNotBegun() {
         CodeProof x = new CodeProof();
         x.unit(1, 60);
-        addAll(x, PUSH, PUSH, new int[] {7, 24}, new int[] {2, 0});
+        Programs.addAll(x, PUSH, PUSH, new int[] {7, 24}, new int[] {2, 0});
         x.unit(1, 0);
-        addAll(x, PUSH, new int[] {2, 0}, new int[] {16, 0}, new int[] {18}, PUSH, new int[] {16, 0});
+        Programs.addAll(x, PUSH, new int[] {2, 0}, new int[] {16, 0}, new int[] {18}, PUSH, new int[] {16, 0});
         Check.due("begun where the stack is empty: prove", x.prove(), 0);
         Check.due("begun where the stack is empty", x.depth(1), 2);
         x.change(1, 2, 18, 0, 0, 0);
@@ -184,7 +171,7 @@ public final class AnswerTest {
     }
 
     private static void walkBits() {
-        CodeProof x = program(new int[] {12, 9, 130}, new int[] {13, 9, 6}, PUSH, new int[] {11, 5}, BLOCK,
+        CodeProof x = Programs.program(new int[] {12, 9, 130}, new int[] {13, 9, 6}, PUSH, new int[] {11, 5}, BLOCK,
                 new int[] {14, 1});
         Check.due("130 choices: prove", x.prove(), 0);
         Check.due("130 choices: steps", x.steps(0), 2 + 130 * 5);
@@ -196,7 +183,7 @@ public final class AnswerTest {
         }
         Check.due("130 choices: the least", x.walk(Long.MIN_VALUE), 2 + 130 * 5);
         Check.due("130 choices: the greatest", x.walk(Long.MAX_VALUE), 2 + 130 * 4);
-        x = program(PUSH, new int[] {11, 2}, PUSH, new int[] {11, 6}, BLOCK, BLOCK, BLOCK);
+        x = Programs.program(PUSH, new int[] {11, 2}, PUSH, new int[] {11, 6}, BLOCK, BLOCK, BLOCK);
         Check.due("UNLESS to the next one: prove", x.prove(), 0);
         Check.due("UNLESS to the next one counts as a choice", x.walk(1), 7);
         Check.due("the choice behind it", x.walk(2), 5);
@@ -205,12 +192,12 @@ public final class AnswerTest {
     private static void walkThroughUnits() {
         CodeProof x = new CodeProof();
         x.unit(2, -1);
-        addAll(x, PUSH, new int[] {11, 3}, BLOCK);
+        Programs.addAll(x, PUSH, new int[] {11, 3}, BLOCK);
         x.change(0, 2, 10, 3, 0, 0);
         x.unit(4, 60);
-        addAll(x, new int[] {15, 0, 2}, PUSH, new int[] {11, 4}, new int[] {18});
+        Programs.addAll(x, new int[] {15, 0, 2}, PUSH, new int[] {11, 4}, new int[] {18});
         x.unit(10, 0);
-        addAll(x, new int[] {12, 9, 2}, new int[] {13, 9, 5}, new int[] {16, 1}, new int[] {15, 0, 0},
+        Programs.addAll(x, new int[] {12, 9, 2}, new int[] {13, 9, 5}, new int[] {16, 1}, new int[] {15, 0, 0},
                 new int[] {14, 1});
         Check.due("choices of all units: prove", x.prove(), 0);
         // A round: 13, CALL, ENTER, PUSH, UNLESS, (GO), PUSH, UNLESS, (LEAVE), ENTER, PUSH, UNLESS, (GO), BACK.
@@ -223,7 +210,7 @@ public final class AnswerTest {
     }
 
     private static void walkEnds() {
-        CodeProof x = program(new int[] {12, 9, 499999}, new int[] {13, 9, 3}, new int[] {14, 1});
+        CodeProof x = Programs.program(new int[] {12, 9, 499999}, new int[] {13, 9, 3}, new int[] {14, 1});
         Check.due("a million steps: prove", x.prove(), 0);
         Check.due("a million steps", x.walk(0), 1000000);
         x.change(0, 0, 12, 9, 499998, 0);
@@ -242,7 +229,7 @@ public final class AnswerTest {
     }
 
     private static void walkLeavesTheProof() {
-        CodeProof x = program(new int[] {12, 9, 3}, new int[] {13, 9, 5}, PUSH, new int[] {11, 5}, new int[] {14, 1});
+        CodeProof x = Programs.program(new int[] {12, 9, 3}, new int[] {13, 9, 5}, PUSH, new int[] {11, 5}, new int[] {14, 1});
         x.prove();
         for (int k = 0; k < 3; k++) {
             Check.due("left at once", x.walk(1), 4);

@@ -21,20 +21,6 @@ public final class FaultTest {
         Check.end();
     }
 
-    /** A program of a frame of 10 cells with these instructions. */
-    private static CodeProof program(int[]... instructions) {
-        CodeProof x = new CodeProof();
-        x.unit(10, 0);
-        addAll(x, instructions);
-        return x;
-    }
-
-    private static void addAll(CodeProof x, int[]... instructions) {
-        for (int[] it : instructions) {
-            x.add(it[0], it.length > 1 ? it[1] : 0, it.length > 2 ? it[2] : 0, it.length > 3 ? it[3] : 0);
-        }
-    }
-
     private static void dueFault(String what, CodeProof x, int fault, int unit, int instruction) {
         Check.due(what + ": prove()", x.prove(), fault);
         Check.due(what + ": count(0)", x.count(0), fault);
@@ -83,7 +69,7 @@ public final class FaultTest {
     }
 
     private static void dueAt1(String what, int fault, int... it) {
-        CodeProof x = program(new int[] {17, 5, 0}, it);
+        CodeProof x = Programs.program(new int[] {17, 5, 0}, it);
         Check.due(what + ": prove()", x.prove(), fault);
         Check.due(what + ": count(2)", x.count(2), fault == 0 ? -1 : 1);
     }
@@ -130,7 +116,7 @@ public final class FaultTest {
         x.unit(3, -1);
         x.unit(5, 50);
         x.add(17, 5, 0, 0);
-        addAll(x, it);
+        Programs.addAll(x, it);
         x.unit(10, 0);
         Check.due(what + ": prove()", x.prove(), fault);
         Check.due(what + ": count(1)", x.count(1), fault == 0 ? -1 : 2);
@@ -210,7 +196,7 @@ public final class FaultTest {
 
     /** An instruction in front of a loop over counter 4 in a frame of 10. */
     private static void dueBeforeLoop(String what, int fault, int... it) {
-        CodeProof x = program(it, new int[] {12, 4, 2}, new int[] {13, 4, 4}, new int[] {14, 2});
+        CodeProof x = Programs.program(it, new int[] {12, 4, 2}, new int[] {13, 4, 4}, new int[] {14, 2});
         Check.due(what + ": prove()", x.prove(), fault);
         Check.due(what + ": count(2)", x.count(2), fault == 0 ? -1 : 0);
     }
@@ -227,11 +213,11 @@ public final class FaultTest {
         dueBeforeLoop("BLOCK up to the counter", 5, 17, 5, 2);
         dueBeforeLoop("BLOCK up to right before it", 0, 17, 5, 1);
         dueBeforeLoop("BLOCK from right behind it", 0, 17, 8, 5);
-        dueFault("LOAD of what a wrong COUNT names", program(new int[] {1, 4}, new int[] {12, 4, -1}), 5, 0, 0);
-        dueFault("LOAD of what a wrong NEXT names", program(new int[] {1, 4}, new int[] {13, 4, -9}), 5, 0, 0);
-        dueFault("a NEXT alone names one", program(new int[] {17, 0, 4}, new int[] {13, 9, 0}), 5, 0, 0);
-        dueFault("a wrong counter names no cell", program(new int[] {17, 0, 4}, new int[] {12, 10, 0}), 4, 0, 1);
-        dueNone("counters of 12 and 13 are theirs", program(new int[] {12, 4, 2}, new int[] {13, 4, 3},
+        dueFault("LOAD of what a wrong COUNT names", Programs.program(new int[] {1, 4}, new int[] {12, 4, -1}), 5, 0, 0);
+        dueFault("LOAD of what a wrong NEXT names", Programs.program(new int[] {1, 4}, new int[] {13, 4, -9}), 5, 0, 0);
+        dueFault("a NEXT alone names one", Programs.program(new int[] {17, 0, 4}, new int[] {13, 9, 0}), 5, 0, 0);
+        dueFault("a wrong counter names no cell", Programs.program(new int[] {17, 0, 4}, new int[] {12, 10, 0}), 4, 0, 1);
+        dueNone("counters of 12 and 13 are theirs", Programs.program(new int[] {12, 4, 2}, new int[] {13, 4, 3},
                 new int[] {14, 1}, new int[] {12, 4, 2}, new int[] {13, 4, 6}, new int[] {14, 4}));
         countersOfOtherUnits();
     }
@@ -239,9 +225,9 @@ public final class FaultTest {
     private static CodeProof withLoopUnit(int place, int[]... instructions) {
         CodeProof x = new CodeProof();
         x.unit(4, place);
-        addAll(x, new int[] {12, 1, 2}, new int[] {13, 1, 3}, new int[] {14, 1});
+        Programs.addAll(x, new int[] {12, 1, 2}, new int[] {13, 1, 3}, new int[] {14, 1});
         x.unit(10, 0);
-        addAll(x, instructions);
+        Programs.addAll(x, instructions);
         return x;
     }
 
@@ -262,7 +248,7 @@ public final class FaultTest {
         CodeProof none = new CodeProof();
         none.unit(0, -1);
         none.unit(10, 0);
-        addAll(none, loop);
+        Programs.addAll(none, loop);
         none.add(15, 0, 3, 0);
         dueNone("ENTER of no cells at a counter", none);
     }
@@ -283,7 +269,7 @@ public final class FaultTest {
     }
 
     private static void dueLoop(String what, int at, int[]... instructions) {
-        dueFault(what, program(instructions), at < 0 ? 0 : 7, at < 0 ? -1 : 0, at);
+        dueFault(what, Programs.program(instructions), at < 0 ? 0 : 7, at < 0 ? -1 : 0, at);
     }
 
     private static void loops() {
@@ -323,15 +309,15 @@ public final class FaultTest {
         int[][] loop = {{12, 9, 2}, {13, 9, 5}, {17, 5, 0}, {14, 2}};
         for (int to = 2; to <= 5; to++) {
             boolean into = to == 2 || to == 3 || to == 4;
-            dueFault("GO to " + to + " of a loop", program(new int[] {10, to}, loop[0], loop[1], loop[2], loop[3]),
+            dueFault("GO to " + to + " of a loop", Programs.program(new int[] {10, to}, loop[0], loop[1], loop[2], loop[3]),
                     into ? 7 : 0, into ? 0 : -1, into ? 0 : -1);
-            dueFault("UNLESS to " + to + " of a loop", program(new int[] {11, to}, loop[0], loop[1], loop[2],
+            dueFault("UNLESS to " + to + " of a loop", Programs.program(new int[] {11, to}, loop[0], loop[1], loop[2],
                     loop[3]), into ? 7 : 8, 0, 0);
         }
-        dueNone("GO to a COUNT", program(new int[] {10, 1}, loop[0], loop[1], loop[2], loop[3]));
-        dueNone("GO within a loop to its BACK", program(new int[] {12, 9, 2}, new int[] {13, 9, 5},
+        dueNone("GO to a COUNT", Programs.program(new int[] {10, 1}, loop[0], loop[1], loop[2], loop[3]));
+        dueNone("GO within a loop to its BACK", Programs.program(new int[] {12, 9, 2}, new int[] {13, 9, 5},
                 new int[] {10, 4}, new int[] {17, 5, 0}, new int[] {14, 1}));
-        dueNone("GO out of a loop to where it goes", program(new int[] {12, 9, 2}, new int[] {13, 9, 4},
+        dueNone("GO out of a loop to where it goes", Programs.program(new int[] {12, 9, 2}, new int[] {13, 9, 4},
                 new int[] {10, 4}, new int[] {14, 1}));
         int[] gos = {5, 6, 8, 9};
         for (int to : gos) {
@@ -339,7 +325,7 @@ public final class FaultTest {
         }
         dueFault("GO from the outer loop into the inner one", nest(1, 5), 7, 0, 2);
         dueNone("GO from the outer loop behind the inner one", nest(1, 7));
-        dueFault("GO from a loop into another one", program(new int[] {12, 9, 2}, new int[] {13, 9, 4},
+        dueFault("GO from a loop into another one", Programs.program(new int[] {12, 9, 2}, new int[] {13, 9, 4},
                 new int[] {10, 6}, new int[] {14, 1}, new int[] {12, 9, 2}, new int[] {13, 9, 7},
                 new int[] {14, 5}), 7, 0, 2);
     }
@@ -350,20 +336,20 @@ public final class FaultTest {
         x.unit(10, -1);
         x.add(12, 9, 2, 0);
         x.unit(10, 0);
-        addAll(x, new int[] {13, 9, 2}, new int[] {14, 0});
+        Programs.addAll(x, new int[] {13, 9, 2}, new int[] {14, 0});
         dueFault("COUNT at the end of a unit, NEXT in the one behind", x, 7, 0, 0);
         x.begin(64);
         x.unit(10, 0);
-        addAll(x, new int[] {17, 5, 0}, new int[] {13, 9, 3}, new int[] {14, 1});
+        Programs.addAll(x, new int[] {17, 5, 0}, new int[] {13, 9, 3}, new int[] {14, 1});
         x.begin(64);
         x.unit(10, 0);
         x.add(12, 9, 2, 0);
         dueFault("COUNT at the end, NEXT in code that is gone", x, 7, 0, 0);
         x.begin(64);
         x.unit(10, -1);
-        addAll(x, new int[] {12, 9, 2}, new int[] {13, 9, 3}, new int[] {14, 1});
+        Programs.addAll(x, new int[] {12, 9, 2}, new int[] {13, 9, 3}, new int[] {14, 1});
         x.unit(10, 0);
-        addAll(x, new int[] {13, 9, 2}, new int[] {14, 0});
+        Programs.addAll(x, new int[] {13, 9, 2}, new int[] {14, 0});
         dueFault("NEXT first in its unit", x, 7, 1, 0);
     }
 
@@ -371,10 +357,10 @@ public final class FaultTest {
     private static CodeProof nest(int which, int to) {
         int[] block = {17, 5, 0};
         if (which == 1) {
-            return program(new int[] {12, 9, 2}, new int[] {13, 9, 9}, new int[] {10, to}, new int[] {12, 8, 2},
+            return Programs.program(new int[] {12, 9, 2}, new int[] {13, 9, 9}, new int[] {10, to}, new int[] {12, 8, 2},
                     new int[] {13, 8, 7}, block, new int[] {14, 4}, block, new int[] {14, 1});
         }
-        return program(new int[] {12, 9, 2}, new int[] {13, 9, 8}, new int[] {12, 8, 2}, new int[] {13, 8, 6},
+        return Programs.program(new int[] {12, 9, 2}, new int[] {13, 9, 8}, new int[] {12, 8, 2}, new int[] {13, 8, 6},
                 new int[] {10, to}, new int[] {14, 3}, block, new int[] {14, 1}, block);
     }
 
@@ -411,27 +397,27 @@ public final class FaultTest {
     }
 
     private static void whereDepthsMeet() {
-        dueFault("the end with something left", program(new int[] {0}), 10, 0, 0);
-        dueFault("GO to the end with something left", program(new int[] {0}, new int[] {10, 2}), 10, 0, 1);
-        dueFault("LEAVE with something left", program(new int[] {0}, new int[] {18}), 10, 0, 1);
-        dueFault("two ways meet with other depths", program(new int[] {0}, new int[] {11, 3}, new int[] {0},
+        dueFault("the end with something left", Programs.program(new int[] {0}), 10, 0, 0);
+        dueFault("GO to the end with something left", Programs.program(new int[] {0}, new int[] {10, 2}), 10, 0, 1);
+        dueFault("LEAVE with something left", Programs.program(new int[] {0}, new int[] {18}), 10, 0, 1);
+        dueFault("two ways meet with other depths", Programs.program(new int[] {0}, new int[] {11, 3}, new int[] {0},
                 new int[] {2, 0}), 10, 0, 2);
-        dueNone("two ways meet with the same depth", program(new int[] {0}, new int[] {11, 5}, new int[] {0},
+        dueNone("two ways meet with the same depth", Programs.program(new int[] {0}, new int[] {11, 5}, new int[] {0},
                 new int[] {2, 0}, new int[] {10, 5}, new int[] {0}, new int[] {2, 0}));
-        dueFault("a round leaves something", program(new int[] {12, 9, 2}, new int[] {13, 9, 4}, new int[] {0},
+        dueFault("a round leaves something", Programs.program(new int[] {12, 9, 2}, new int[] {13, 9, 4}, new int[] {0},
                 new int[] {14, 1}), 10, 0, 3);
-        dueNone("a round at a depth of 1", program(new int[] {0}, new int[] {12, 9, 2}, new int[] {13, 9, 6},
+        dueNone("a round at a depth of 1", Programs.program(new int[] {0}, new int[] {12, 9, 2}, new int[] {13, 9, 6},
                 new int[] {8, 0}, new int[] {8, 7}, new int[] {14, 2}, new int[] {2, 0}));
-        dueFault("a loop left with more than where its 13 goes", program(new int[] {12, 9, 2}, new int[] {13, 9, 5},
+        dueFault("a loop left with more than where its 13 goes", Programs.program(new int[] {12, 9, 2}, new int[] {13, 9, 5},
                 new int[] {0}, new int[] {10, 5}, new int[] {14, 1}, new int[] {17, 5, 0}), 10, 0, 3);
-        dueNone("what nothing goes to is left out", program(new int[] {18}, new int[] {2, 0}, new int[] {9},
+        dueNone("what nothing goes to is left out", Programs.program(new int[] {18}, new int[] {2, 0}, new int[] {9},
                 new int[] {0}));
-        dueNone("behind GO nothing comes", program(new int[] {10, 2}, new int[] {9}, new int[] {17, 5, 0}));
-        dueNone("behind LEAVE and its like nothing comes either", program(new int[] {10, 3}, new int[] {0},
+        dueNone("behind GO nothing comes", Programs.program(new int[] {10, 2}, new int[] {9}, new int[] {17, 5, 0}));
+        dueNone("behind LEAVE and its like nothing comes either", Programs.program(new int[] {10, 3}, new int[] {0},
                 new int[] {0}, new int[] {17, 5, 0}));
-        dueFault("a round that never comes is looked at, too", program(new int[] {12, 9, 0}, new int[] {13, 9, 4},
+        dueFault("a round that never comes is looked at, too", Programs.program(new int[] {12, 9, 0}, new int[] {13, 9, 4},
                 new int[] {2, 0}, new int[] {14, 1}), 8, 0, 2);
-        dueFault("behind a loop that is never gone through, too", program(new int[] {12, 9, 1}, new int[] {13, 9, 4},
+        dueFault("behind a loop that is never gone through, too", Programs.program(new int[] {12, 9, 1}, new int[] {13, 9, 4},
                 new int[] {18}, new int[] {14, 1}, new int[] {2, 0}), 8, 0, 4);
         CodeProof units = new CodeProof();
         units.unit(4, 60);
@@ -442,7 +428,7 @@ public final class FaultTest {
 
     private static void tooManySteps() {
         int[][] code = {{12, 9, 1000}, {13, 9, 6}, {12, 8, 499998}, {13, 8, 5}, {14, 3}, {14, 1}};
-        CodeProof x = program(code);
+        CodeProof x = Programs.program(code);
         // A round: 13, 12, 499,998 times 13 and 14, 13, 14: exactly 1,000,000; with 12 and the last 13 two too many.
         dueFault("1,000,000,002 steps", x, 11, 0, -1);
         x.change(0, 2, 12, 8, 499997, 0);
@@ -450,14 +436,14 @@ public final class FaultTest {
         Check.due("999,998,002 steps", x.steps(0), 999998002);
         int[][] most = {{12, 9, 999}, {13, 9, 6}, {12, 8, 499998}, {13, 8, 5}, {14, 3}, {14, 1},
             {12, 9, 499998}, {13, 9, 9}, {14, 7}};
-        x = program(most);
+        x = Programs.program(most);
         dueNone("a billion steps", x);
         Check.due("a billion steps", x.steps(0), 1000000000);
         x.add(17, 5, 0, 0);
         dueFault("a billion steps and one", x, 11, 0, -1);
         x.change(0, 9, 10, 10, 0, 0);
         dueFault("a billion steps and a GO", x, 11, 0, -1);
-        dueNone("too many that are never taken", program(new int[] {12, 7, 0}, new int[] {13, 7, 9},
+        dueNone("too many that are never taken", Programs.program(new int[] {12, 7, 0}, new int[] {13, 7, 9},
                 new int[] {12, 9, 1000000}, new int[] {13, 9, 8}, new int[] {12, 8, 1000000}, new int[] {13, 8, 7},
                 new int[] {14, 5}, new int[] {14, 3}, new int[] {14, 1}));
         deepestNest();
@@ -494,10 +480,10 @@ public final class FaultTest {
         CodeProof x = new CodeProof();
         x.unit(1, -1);
         // 2 + 4 * 249,999 = 999,998 steps.
-        addAll(x, new int[] {12, 0, 249999}, new int[] {13, 0, 5}, new int[] {10, 3}, new int[] {10, 4},
+        Programs.addAll(x, new int[] {12, 0, 249999}, new int[] {13, 0, 5}, new int[] {10, 3}, new int[] {10, 4},
                 new int[] {14, 1});
         x.unit(10, 0);
-        addAll(x, new int[] {12, 9, 1000}, new int[] {13, 9, 4}, new int[] {15, 0, 0}, new int[] {14, 1});
+        Programs.addAll(x, new int[] {12, 9, 1000}, new int[] {13, 9, 4}, new int[] {15, 0, 0}, new int[] {14, 1});
         dueFault("1000 rounds of 1,000,001", x, 11, 1, -1);
         x.change(1, 0, 12, 9, 999, 0);
         dueNone("999 rounds of 1,000,001", x);
@@ -511,12 +497,12 @@ public final class FaultTest {
         x = placed(64, new int[] {10, 20}, new int[] {10, 1});
         dueFault("then the next unit's", x, 1, 1, -1);
         dueFault("place before instructions", placedWith99(), 1, 0, -1);
-        dueFault("form of a later one before loops", program(new int[] {12, 9, 2}, new int[] {99}), 2, 0, 1);
-        dueFault("target of a later one before loops", program(new int[] {12, 9, 2}, new int[] {10, 0}), 6, 0, 1);
-        dueFault("a first one's target before the next one's form", program(new int[] {10, 0}, new int[] {99}), 6, 0,
+        dueFault("form of a later one before loops", Programs.program(new int[] {12, 9, 2}, new int[] {99}), 2, 0, 1);
+        dueFault("target of a later one before loops", Programs.program(new int[] {12, 9, 2}, new int[] {10, 0}), 6, 0, 1);
+        dueFault("a first one's target before the next one's form", Programs.program(new int[] {10, 0}, new int[] {99}), 6, 0,
                 0);
-        dueFault("loops of a later one before the stack", program(new int[] {9}, new int[] {12, 9, 2}), 7, 0, 1);
-        dueFault("the stack before steps", program(new int[] {12, 9, 1000000}, new int[] {13, 9, 7},
+        dueFault("loops of a later one before the stack", Programs.program(new int[] {9}, new int[] {12, 9, 2}), 7, 0, 1);
+        dueFault("the stack before steps", Programs.program(new int[] {12, 9, 1000000}, new int[] {13, 9, 7},
                 new int[] {12, 8, 1000000}, new int[] {13, 8, 6}, new int[] {17, 5, 0}, new int[] {14, 3},
                 new int[] {14, 1}, new int[] {0}), 10, 0, 7);
         x = new CodeProof();
@@ -529,9 +515,9 @@ public final class FaultTest {
         dueAt1("form before cells", 2, 3, -1, 0, 0);
         dueAt1("unit before cell", 3, 5, 0, -1);
         dueAt1("cell before target", 4, 13, 10, 0);
-        dueFault("counter before the next one's cell", program(new int[] {1, 4}, new int[] {12, 4, 0},
+        dueFault("counter before the next one's cell", Programs.program(new int[] {1, 4}, new int[] {12, 4, 0},
                 new int[] {1, 10}), 5, 0, 0);
-        dueFault("empty before full: a fault is told once, at the first", program(new int[] {2}, new int[] {2}), 8,
+        dueFault("empty before full: a fault is told once, at the first", Programs.program(new int[] {2}, new int[] {2}), 8,
                 0, 0);
     }
 
