@@ -62,28 +62,16 @@ public final class CountTest {
     }
 
     private static void notProvedSinceCodeCameOrChanged() {
-        for (int how = 0; how < 4; how++) {
-            CodeProof x = Programs.program("18, 99");
+        for (int how = 0; how < Programs.DISTURBANCES; how++) {
+            CodeProof x = Programs.program("10 1, 99");
             x.prove();
             due("found", x, 2, 0, 1, 1, 2);
-            disturb(x, how);
+            Programs.disturb(x, how);
             due("disturbance " + how, x, 0, -1, -1);
-            x = Programs.program("18, 18");
+            x = Programs.program("10 1, 18");
             x.prove();
-            disturb(x, how);
+            Programs.disturb(x, how);
             due("disturbance " + how + " of accepted code", x, 0, -1, -1);
-        }
-    }
-
-    private static void disturb(CodeProof x, int how) {
-        if (how == 0) {
-            x.unit(1, 0);
-        } else if (how == 1) {
-            x.add(18, 0, 0, 0);
-        } else if (how == 2) {
-            x.change(0, 0, 18, 0, 0, 0);
-        } else {
-            x.begin(64);
         }
     }
 

@@ -114,6 +114,8 @@ public final class CounterFaultTest {
     }
 
     private static void countersWhereverTheyStand() {
+        due("a 12 alone, the first instruction", false, program("12 9 0, 1 9"), 0, 1);
+        due("a 13 alone, the first instruction", false, program("13 9 1, 1 9"), 0, 1);
         due("a loop before", false, program("12 9 2, 13 9 3, 14 1, 1 9, 11 5"), 0, 3);
         due("the loop that it is in", false, program("12 9 2, 13 9 5, 1 9, 11 4, 14 1"), 0, 2);
         due("a loop where nothing comes", false, program("1 9, 11 2, 18" + loopBehind(3)), 0, 0);

@@ -49,19 +49,11 @@ public final class DepthTest {
             Refusal.due("depth(0) (" + state + ")", Refusal.states().get(state), x -> x.depth(0));
             Refusal.due("depth(2) (" + state + ")", Refusal.states().get(state), x -> x.depth(2));
         }
-        for (int how = 0; how < 4; how++) {
-            CodeProof x = Programs.program("0, 2 0, 18");
+        for (int how = 0; how < Programs.DISTURBANCES; how++) {
+            CodeProof x = Programs.program("10 1, 0, 2 0, 18");
             x.prove();
             Check.due("accepted", x.depth(0), 1);
-            if (how == 0) {
-                x.unit(0, 0);
-            } else if (how == 1) {
-                x.add(18, 0, 0, 0);
-            } else if (how == 2) {
-                x.change(0, 2, 18, 0, 0, 0);
-            } else {
-                x.begin(64);
-            }
+            Programs.disturb(x, how);
             Check.due("disturbance " + how, x.depth(0), CodeProof.BAD);
             Check.due("proved again", x.prove(), 0);
             Check.due("proved again: depth", x.depth(0), how == 3 ? CodeProof.BAD : 1);

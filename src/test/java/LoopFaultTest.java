@@ -16,6 +16,7 @@ public final class LoopFaultTest {
         goInAndOutOfLoops();
         unlessIntoALoop();
         whereNothingComes();
+        otherInstructionsMakeNoLoop();
         onlyTheUnitsOwn();
         Check.end();
     }
@@ -176,6 +177,14 @@ public final class LoopFaultTest {
         due("a 11", 1, "18, 11 4, 12 9 2, 13 9 5, 14 3");
     }
 
+    /** An operand b that is behind the instruction, as a 13's would be. */
+    private static void otherInstructionsMakeNoLoop() {
+        for (String other : new String[] {"0 9 5", "1 0 5", "2 0 5", "3 0 5 1", "7 0 5", "8 0 5", "9 9 5", "10 2 5", "11 2 5",
+            "17 5 5", "18 9 5"}) {
+            due("GO over " + other, -1, "10 3, " + other + ", 17 5 0, 17 5 0, 17 5 0, 17 5 0");
+        }
+    }
+
     /** What stands right behind the unit's last instruction, or right before its first, is none of its own. */
     private static void onlyTheUnitsOwn() {
         CodeProof x = Programs.code(64, "10 -1: 12 9 2", "10 0: 13 9 2, 14 0");
@@ -186,6 +195,9 @@ public final class LoopFaultTest {
         Check.accepted("a GO to where another unit has a loop", x);
         x = Programs.code(64, "10 -1: 12 9 2, 13 9 6, 17 5 0, 17 5 0, 17 5 0, 14 1", "10 0: 17 5 0, 17 5 0, 12 9 2, 13 9 5, 14 3");
         Check.accepted("a 12 where another unit has a loop with its counter", x);
+        // Where the first unit has its 13, the second one has a block whose b is no place to go to.
+        x = Programs.code(64, "10 20: 12 9 2, 13 9 4, 17 5 0, 14 1", "10 0: 10 2, 17 5 4, 17 5 0, 12 9 0, 13 9 6, 14 4");
+        Check.accepted("a GO over what was a 13 in another unit", x);
         x = Programs.code(64, "10 20: 12 9 2, 13 9 3, 14 1", "10 0: 12 9 2, 13 9 2");
         Check.fault("a loop without an end in the second unit", x, 7, 1, 1);
     }

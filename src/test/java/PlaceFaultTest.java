@@ -90,13 +90,12 @@ public final class PlaceFaultTest {
     }
 
     private static void cellsOfEachUnitBefore() {
-        String[] places = {"2 10", "2 20", "2 30", "2 40"};
         for (int shared = 0; shared < 4; shared++) {
             int first = 10 * (shared + 1);
-            due("the first cell of unit " + shared, 4, 64, places[0], places[1], places[2], places[3], "2 " + (first - 1), "0 0");
-            due("the last cell of unit " + shared, 4, 64, places[0], places[1], places[2], places[3], "2 " + (first + 1), "0 0");
-            due("right before unit " + shared, -1, 64, places[0], places[1], places[2], places[3], "2 " + (first - 2), "0 0");
-            due("right behind unit " + shared, -1, 64, places[0], places[1], places[2], places[3], "2 " + (first + 2), "0 0");
+            dueBehindFour("the first cell of unit " + shared, first - 1, true);
+            dueBehindFour("the last cell of unit " + shared, first + 1, true);
+            dueBehindFour("right before unit " + shared, first - 2, false);
+            dueBehindFour("right behind unit " + shared, first + 2, false);
         }
         String[] units = new String[16];
         for (int unit = 0; unit < 15; unit++) {
@@ -106,6 +105,10 @@ public final class PlaceFaultTest {
         due("16 units on all cells", -1, 64, units);
         units[15] = "5 0";
         due("the 16th into the first", 15, 64, units);
+    }
+
+    private static void dueBehindFour(String what, int place, boolean shares) {
+        due(what, shares ? 4 : -1, 64, "2 10", "2 20", "2 30", "2 40", "2 " + place, "0 0");
     }
 
     private static void unitsWithoutAPlace() {

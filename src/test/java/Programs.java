@@ -43,6 +43,21 @@ final class Programs {
         x.change(unit, i, it[0], it[1], it[2], it[3]);
     }
 
+    /** The ways in which code comes or changes; the first instruction of the code must be "10 1", and stays so. */
+    static final int DISTURBANCES = 4;
+
+    static void disturb(CodeProof x, int how) {
+        if (how == 0) {
+            x.unit(0, 0);
+        } else if (how == 1) {
+            x.add(18, 0, 0, 0);
+        } else if (how == 2) {
+            x.change(0, 0, 10, 1, 0, 0);
+        } else {
+            x.begin(64);
+        }
+    }
+
     /** The same instructions so many times, each followed by a comma. */
     static String times(int many, String instructions) {
         return (instructions + ", ").repeat(Math.max(0, many));

@@ -13,6 +13,7 @@ public final class StackFaultTest {
         emptyStack();
         sixtyFour();
         unitsBegunDoNotCountForSixtyFour();
+        theFirstInstruction();
         atTheEnd();
         goneToWithAnotherDepth();
         goneToByUnless();
@@ -94,6 +95,16 @@ public final class StackFaultTest {
         CodeProof x = Programs.code(64, "4 60: " + deep, "10 0: 0, 0, 16 0, 7 0, 2 0");
         Check.accepted("a unit of a depth of 64 begun at 2", x);
         Check.due("its depth", x.depth(1), 66);
+    }
+
+    /** It begins with 0; only a 14 could go to it, and is refused before, as a 13 there has no 12 before it. */
+    private static void theFirstInstruction() {
+        Check.fault("it takes one", Programs.program("2 0, 17 5 0"), 8, 0, 0);
+        Check.fault("a 14 goes to it", Programs.program("17 5 0, 14 0"), 7, 0, 1);
+        Check.fault("a 14 goes to it with one more", Programs.program("0, 14 0"), 7, 0, 1);
+        Check.fault("a 14 goes to it, a 13", Programs.program("13 9 3, 0, 14 0"), 7, 0, 0);
+        Check.fault("it is the only one", Programs.program("0"), 10, 0, 0);
+        Check.accepted("it is the end, too", Programs.program(""));
     }
 
     private static void atTheEnd() {

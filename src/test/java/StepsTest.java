@@ -18,6 +18,7 @@ public final class StepsTest {
         wholeRoundsByLeavingAnInnerLoop();
         beginsUnits();
         longestIsTheLongestWalk();
+        operandsThatAreNotNamed();
         Check.end();
     }
 
@@ -54,30 +55,18 @@ public final class StepsTest {
             Refusal.due("steps(0) (" + state + ")", Refusal.states().get(state), x -> x.steps(0));
             Refusal.due("steps(2) (" + state + ")", Refusal.states().get(state), x -> x.steps(2));
         }
-        for (int how = 0; how < 4; how++) {
-            CodeProof x = Programs.program("18, 18");
+        for (int how = 0; how < Programs.DISTURBANCES; how++) {
+            CodeProof x = Programs.program("10 1, 18");
             x.prove();
-            Check.due("accepted", x.steps(0), 1);
-            disturb(x, how);
+            Check.due("accepted", x.steps(0), 2);
+            Programs.disturb(x, how);
             Check.due("disturbance " + how, x.steps(0), CodeProof.BAD);
             Check.due("proved again", x.prove(), 0);
-            Check.due("proved again: steps", x.steps(0), how == 3 ? CodeProof.BAD : 1);
+            Check.due("proved again: steps", x.steps(0), how == 3 ? CodeProof.BAD : 2);
         }
         CodeProof x = Programs.code(64, "10 20: 18", "10 0: 19");
         Check.fault("refused in its second unit", x, 2, 1, 0);
         Check.due("the first unit is right, but prove() did not answer 0", x.steps(0), CodeProof.BAD);
-    }
-
-    private static void disturb(CodeProof x, int how) {
-        if (how == 0) {
-            x.unit(0, 0);
-        } else if (how == 1) {
-            x.add(18, 0, 0, 0);
-        } else if (how == 2) {
-            x.change(0, 1, 18, 0, 0, 0);
-        } else {
-            x.begin(64);
-        }
     }
 
     private static void instructionsAreOneStepEach() {
@@ -225,6 +214,23 @@ public final class StepsTest {
                 most = Math.max(most, x.walk(bits));
             }
             Check.due(code + ": steps(0)", x.steps(0), most);
+        }
+    }
+
+    /** Operands that an instruction has no use for change no answer; here each is one that another instruction would use. */
+    private static void operandsThatAreNotNamed() {
+        String code = "0%%%, 11 4%%, 17 5 0%, 10 5%%, 17 5 3%, 12 9 3%, 13 9 14%, 0%%%, 8 3%%, 11 12%%, 0%%%, 2 0%%, 17 5 0%,"
+                + " 14 6%%, 1 0%%, 0%%%, 0%%%, 9%%%, 3 0% 2, 2 1%%, 0%%%, 11 25%%, 0%%%, 0%%%, 4 0% 2, 18%%%";
+        CodeProof plain = Programs.program(code.replace("%", " 0"));
+        Check.accepted("operands of 0", plain);
+        for (int any : new int[] {1, 2, 5, 7, 9, 14, 25, 26, -1, Check.LEAST, Check.MOST}) {
+            CodeProof x = Programs.program(code.replace("%", " " + any));
+            Check.accepted("operands of " + any, x);
+            Check.due("operands of " + any + ": steps(0)", x.steps(0), plain.steps(0));
+            Check.due("operands of " + any + ": depth(0)", x.depth(0), plain.depth(0));
+            for (int bits = 0; bits < 32; bits++) {
+                Check.due("operands of " + any + ": walk(" + bits + ")", x.walk(bits), plain.walk(bits));
+            }
         }
     }
 }

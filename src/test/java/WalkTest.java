@@ -39,20 +39,14 @@ public final class WalkTest {
             Refusal.due("walk (" + state + ")", Refusal.states().get(state), x -> x.walk(0));
             Refusal.due("walk (" + state + ")", Refusal.states().get(state), x -> x.walk(-1));
         }
-        for (int how = 0; how < 3; how++) {
-            CodeProof x = Programs.program("17 5 0, 18");
+        for (int how = 0; how < Programs.DISTURBANCES; how++) {
+            CodeProof x = Programs.program("10 1, 18");
             x.prove();
             Check.due("accepted", x.walk(0), 2);
-            if (how == 0) {
-                x.unit(0, 0);
-            } else if (how == 1) {
-                x.add(18, 0, 0, 0);
-            } else {
-                x.change(0, 1, 18, 0, 0, 0);
-            }
+            Programs.disturb(x, how);
             Check.due("disturbance " + how, x.walk(0), CodeProof.BAD);
             Check.due("proved again", x.prove(), 0);
-            Check.due("proved again: walk", x.walk(0), how == 0 ? 0 : 2);
+            Check.due("proved again: walk", x.walk(0), how == 3 ? CodeProof.BAD : how == 0 ? 0 : 2);
         }
     }
 
