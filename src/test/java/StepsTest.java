@@ -221,6 +221,9 @@ public final class StepsTest {
     private static void operandsThatAreNotNamed() {
         String code = "0%%%, 11 4%%, 17 5 0%, 10 5%%, 17 5 3%, 12 9 3%, 13 9 14%, 0%%%, 8 3%%, 11 12%%, 0%%%, 2 0%%, 17 5 0%,"
                 + " 14 6%%, 1 0%%, 0%%%, 0%%%, 9%%%, 3 0% 2, 2 1%%, 0%%%, 11 25%%, 0%%%, 0%%%, 4 0% 2, 18%%%";
+        due("b of UNLESS is no place to go to", 3, "0, 11 3 4 4, 18, 18, 17 5 0, 17 5 0, 17 5 0");
+        due("b of GO is none either", 2, "10 2 3 3, 18, 18, 17 5 0, 17 5 0, 17 5 0");
+        due("a of LEAVE is none either", 1, "18 2 2 2, 18, 17 5 0, 17 5 0, 17 5 0");
         CodeProof plain = Programs.program(code.replace("%", " 0"));
         Check.accepted("operands of 0", plain);
         for (int any : new int[] {1, 2, 5, 7, 9, 14, 25, 26, -1, Check.LEAST, Check.MOST}) {
