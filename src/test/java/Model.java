@@ -359,7 +359,7 @@ final class Model {
     private int walkedUnlesses;
     private int walkedSteps;
     private int stackNow;
-    /** What went wrong in a walk that never may: a stack that was empty or too deep, a cell outside. */
+    /** What went wrong in a walk that never may: with the stack, where it went, in which cells, with a loop's counter. */
     String broken;
 
     /** A walk on cells: all that is read is anything, all that is written, too. */
@@ -383,10 +383,10 @@ final class Model {
         Unit unit = units.get(u);
         int i = 0;
         int floor = stackNow;
+        int[] turnsLeft = new int[unit.code.size()];
         while (i < unit.code.size() && walkedSteps < 1000000 && broken == null) {
             walkedSteps++;
-            int[] it = unit.code.get(i);
-            int n = it[0];
+            int n = unit.n(i);
             if (stackNow - taken(n) < floor) {
                 broken = "the stack is empty";
             }
@@ -394,23 +394,35 @@ final class Model {
             if (stackNow > units.get(units.size() - 1).depth) {
                 broken = "the stack is deeper than depth() says";
             }
+            countTurn(unit, i, turnsLeft, cells, base);
             i = stepOn(u, base, i, cells, bits, random);
+            if (i < 0 || i > unit.code.size()) {
+                broken = "it goes out of the unit";
+            }
+        }
+        if (stackNow != floor && walkedSteps < 1000000 && broken == null) {
+            broken = "a unit leaves another stack than it found";
+        }
+    }
+
+    /** The turns are counted beside the cells, too: no one else may have written where the counter is. */
+    private void countTurn(Unit unit, int i, int[] turnsLeft, int[] cells, int base) {
+        if (unit.n(i) == 12) {
+            turnsLeft[i + 1] = unit.b(i);
+        } else if (unit.n(i) == 13) {
+            if (cells[base + unit.a(i)] != turnsLeft[i]) {
+                broken = "a loop is counted wrongly";
+            }
+            turnsLeft[i]--;
         }
     }
 
     private int stepOn(int u, int base, int i, int[] cells, long bits, Random random) {
-        int[] it = units.get(u).code.get(i);
+        Unit unit = units.get(u);
+        int[] it = unit.code.get(i);
         int n = it[0];
-        if (n == 2) {
-            write(cells, base + it[1], random.nextInt());
-        } else if (n == 4) {
-            write(cells, base + it[1] + random.nextInt(it[3]), random.nextInt());
-        } else if (n == 6) {
-            write(cells, units.get(it[1]).place + it[2], random.nextInt());
-        } else if (n == 17) {
-            for (int k = 0; k < (it[1] < 5 ? 6 : 3); k++) {
-                write(cells, base + it[2] + k, random.nextInt());
-            }
+        if (n <= 6 || n == 17) {
+            touch(unit, base, it, cells, random);
         } else if (n == 10 || n == 14) {
             return it[1];
         } else if (n == 11) {
@@ -418,7 +430,7 @@ final class Model {
             walkedUnlesses++;
             return goes ? it[1] : i + 1;
         } else if (n == 12) {
-            write(cells, base + it[1], it[2]);
+            write(unit, base, it[1], cells, it[2]);
         } else if (n == 13) {
             if (cells[base + it[1]] == 0) {
                 return it[2];
@@ -429,16 +441,44 @@ final class Model {
         } else if (n == 16) {
             run(it[1], units.get(it[1]).place, cells, bits, random);
         } else if (n == 18) {
-            return units.get(u).code.size();
+            return unit.code.size();
         }
         return i + 1;
     }
 
-    private void write(int[] cells, int cell, int value) {
-        if (cell < 0 || cell >= cells.length) {
+    /** Reads and writes what is in an instruction's reach; which one of several cells it is, is anything. */
+    private void touch(Unit unit, int base, int[] it, int[] cells, Random random) {
+        int n = it[0];
+        if (n == 1 || n == 2) {
+            write(unit, base, it[1], cells, n == 1 ? read(unit, base, it[1], cells) : random.nextInt());
+        } else if (n == 3 || n == 4) {
+            int cell = it[1] + random.nextInt(it[3]);
+            write(unit, base, cell, cells, n == 3 ? read(unit, base, cell, cells) : random.nextInt());
+        } else if (n == 5 || n == 6) {
+            Unit other = units.get(it[1]);
+            write(other, other.place, it[2], cells, n == 5 ? read(other, other.place, it[2], cells) : random.nextInt());
+        } else if (n == 17) {
+            for (int k = 0; k < (it[1] < 5 ? 6 : 3); k++) {
+                write(unit, base, it[2] + k, cells, random.nextInt());
+            }
+        }
+    }
+
+    private boolean isThere(Unit unit, int base, int cell, int[] cells) {
+        boolean is = cell >= 0 && cell < unit.frame && base >= 0 && base + cell < cells.length;
+        if (!is) {
             broken = "a cell outside";
-        } else {
-            cells[cell] = value;
+        }
+        return is;
+    }
+
+    private int read(Unit unit, int base, int cell, int[] cells) {
+        return isThere(unit, base, cell, cells) ? cells[base + cell] : 0;
+    }
+
+    private void write(Unit unit, int base, int cell, int[] cells, int value) {
+        if (isThere(unit, base, cell, cells)) {
+            cells[base + cell] = value;
         }
     }
 }
